@@ -307,6 +307,14 @@ public final class PromisesTest {
         z.go(1);
         of("10: as far as it has any", z, 0, 2, 70, 0, 1, 1, 20, 1);
         of("10: the other as well", z, 1, 0, 80, 0, 0, 1, 0, 0);
+        PourElection one = with(2);
+        one.change(0, 2, 1);
+        one.go(1);
+        of("10: one cup is enough", one, 0, 2, 70, 0, 1, 1, 1, 1);
+        PourElection few = with(2);
+        few.ward(0, 0, 1);
+        few.go(1);
+        of("10: one voter is enough", few, 0, 2, 70, 19, 1, 1, 1, 1);
         PourElection w = with(1, 1);
         w.change(0, 2, 11);
         w.change(1, 2, 10);
@@ -347,11 +355,15 @@ public final class PromisesTest {
         }
         due("10: day 99960", x.now(0), 99960);
         due("10: too far", x.go(40), STATE);
+        x.image();
+        due("10: up to the last", x.go(39), 0);
+        due("10: day 99999", x.now(0), 99999);
+        x.undo();
         x.elect(20);
         due("25: day 99980", x.now(0), 99980);
         due("25: too far", x.elect(20), STATE);
-        x.go(19);
-        due("10: day 99999", x.now(0), 99999);
+        x.elect(19);
+        due("25: day 99999", x.now(0), 99999);
         due("10: no day more", x.go(1), STATE);
         due("25: no day more", x.elect(1), STATE);
         due("10: BEYOND ahead of STATE", x.go(61), BEYOND);
@@ -375,23 +387,29 @@ public final class PromisesTest {
         x.change(0, 1, 99);
         x.change(1, 5, 3);
         x.change(2, 5, 3);
-        x.change(1, 2, 5);
+        x.change(1, 2, 45);
         x.change(0, 3, 4);
         x.change(3, 3, 2);
         x.change(3, 1, 91);
         x.change(2, 1, 91);
         x.ward(3, 0, 0);
-        int[] want = {0, 1, 13, 45, 14, 55, 6, 2};
+        int[] want = {0, 1, 13, 85, 14, 55, 6, 2};
         for (int what = 0; what < 8; what++) {
             due("11: what " + what, x.now(what), want[what]);
         }
         x.go(7);
         due("11: day", x.now(0), 7);
+        due("11: the first wins everywhere", with(0).now(5), 63);
         for (int i = 0; i < 4; i++) {
             x.change(i, 2, 0);
         }
         due("11: no cup, no winner", x.now(5), 0);
         due("11: no cups", x.now(3), 0);
+        x = with(0, 0, 0, 0, 0, 0, 0, 0);
+        int[] eight = {0, 0, 0, 160, 255, 63, 0, 0};
+        for (int what = 0; what < 8; what++) {
+            due("11: of eight " + what, x.now(what), eight[what]);
+        }
         due("11: above", x.now(8), BEYOND);
         due("11: below", x.now(-1), BEYOND);
     }
@@ -475,6 +493,12 @@ public final class PromisesTest {
         due("15: more", x.votes(0, 21), 7);
         due("15: on day 200", x.votes(0, 680), 200);
         due("15: too many", x.votes(0, 681), NONE);
+        PourElection y = with(0);
+        for (int i = 0; i < 6; i++) {
+            y.ward(i, 0, 5);
+        }
+        due("15: the last that is asked", y.votes(0, 670), 200);
+        due("15: only on day 201", y.votes(0, 671), NONE);
         due("15: most", x.votes(0, 99999), NONE);
         due("15: above", x.votes(0, 100000), BEYOND);
         due("15: below", x.votes(0, -1), BEYOND);
@@ -616,6 +640,7 @@ public final class PromisesTest {
         due("21: days below", x.smash(0, -1), BEYOND);
         due("21: twenty", x.smash(0, 20), 0);
         promise21Fewest();
+        promise21Least();
     }
 
     /** Fewer count ahead of a lesser set: one alone (bit 7) instead of the two with bits 0 and 1. */
@@ -630,6 +655,24 @@ public final class PromisesTest {
         x.change(2, 5, 50);
         due("21: then it leads by votes", x.smash(2, 20), 129);
         due("21: at once", x.smash(2, 0), 128);
+    }
+
+    /** Teapot 2 leads as soon as either of the others leaves it one ward. */
+    private static void promise21Least() {
+        PourElection x = with(0, 0, 0);
+        int[] heats = {60, 80, 70};
+        int[] votes = {10, 10, 15};
+        for (int i = 0; i < 3; i++) {
+            x.change(i, 1, heats[i]);
+            x.change(i, 5, votes[i]);
+        }
+        x.ward(1, 1, 75);
+        due("21: of two that would do the least", x.smash(2, 2), 1);
+        x.change(0, 5, 99);
+        due("21: only the first would do", x.smash(2, 2), 1);
+        x.change(0, 5, 10);
+        x.change(1, 5, 99);
+        due("21: only the second would do", x.smash(2, 2), 2);
     }
 
     private static void promise22() {
@@ -671,14 +714,14 @@ public final class PromisesTest {
         due("23: not so now", x.fits(0, 0, 0), 0);
         sheet(x, 0, 32, -1, -2);
         due("23: -2 is no any", x.fits(0, 0, 0), 0);
-        sheet(x, 1, 32, -1, -1, -1, -1, -1, -1, -1, -1, -1, -1, -1, -1, 77);
-        due("23: the 13th is not asked", x.fits(1, 0, 0), 100);
-        x.write(1, 11, 77);
-        due("23: the 12th is", x.fits(1, 0, 0), 0);
-        due("23: teapot", x.fits(1, 2, 0), BEYOND);
-        due("23: teapot below", x.fits(1, -1, 0), BEYOND);
-        due("23: ward", x.fits(1, 0, 6), BEYOND);
-        due("23: ward below", x.fits(1, 0, -1), BEYOND);
+        sheet(x, 3, 32, -1, -1, -1, -1, -1, -1, -1, -1, -1, -1, -1, -1, 77);
+        due("23: the 13th is not asked", x.fits(3, 0, 0), 100);
+        x.write(3, 11, 77);
+        due("23: the 12th is", x.fits(3, 0, 0), 0);
+        due("23: teapot", x.fits(3, 2, 0), BEYOND);
+        due("23: teapot below", x.fits(3, -1, 0), BEYOND);
+        due("23: ward", x.fits(3, 0, 6), BEYOND);
+        due("23: ward below", x.fits(3, 0, -1), BEYOND);
         due("23: nothing has changed", x.wardOf(0, 1) + x.of(0, 6), 60);
     }
 
@@ -761,6 +804,10 @@ public final class PromisesTest {
         due("26: one of 100", x.odds(0, 0, 9, 0), 1);
         due("26: below, a long", x.odds(0, 0, 9, 1), 1000000000000000000L);
         due("26: 99 of 100", x.odds(1, 0, 9, 0), 913517247483640899L);
+        x.change(0, 1, 98);
+        x.change(1, 1, 97);
+        due("26: two of 100", x.odds(0, 0, 1, 0), 1);
+        due("26: below", x.odds(0, 0, 1, 1), 50);
         x.change(0, 4, 0);
         due("26: never", x.odds(0, 0, 3, 0), 0);
         due("26: below", x.odds(0, 0, 3, 1), 1);
@@ -841,6 +888,8 @@ public final class PromisesTest {
         of("30: brown", x, 2, 1, 90, 0, 0, 1, 7, 0);
         due("30: taste alone", x.wardOf(4, 1), 5);
         due("30: voters stay", x.wardOf(4, 0), 10);
+        due("30: a taste of 99", Check.read(x, "ward 1 taste 99"), 1);
+        due("30: is so", x.wardOf(1, 1), 99);
         due("30: item by item", Check.read(x, "ward 0 taste 1;ward 0 taste 2;trial 1 1;trial 1 2"), 4);
         due("30: the later", x.wardOf(0, 1), 2);
         due("30: the later trial", x.listed(1), 2);
@@ -869,9 +918,18 @@ public final class PromisesTest {
     private static void promise30Faults() {
         fault("", 0);
         fault("   ", 3);
+        fault(" ".repeat(120), 120);
+        fault("u".repeat(120), 0);
+        fault("urn" + " ".repeat(116) + "9", 119);
+        fault("urn votes " + "9".repeat(110), 10);
         fault(";", 0);
         fault("7", 0);
         fault("urns", 0);
+        fault("urnz", 0);
+        fault("urna", 0);
+        fault("orn", 0);
+        fault("urn cats 1", 4);
+        fault("wars 1", 0);
         fault("Urn", 0);
         fault("uRn", 0);
         fault("urnN", 3);
@@ -1058,6 +1116,7 @@ public final class PromisesTest {
     private static void promise36() {
         PourElection x = new PourElection();
         due("36: missing", x.load(1), MISSING);
+        due("36: the last is missing too", x.load(3), MISSING);
         due("36: above", x.load(4), BEYOND);
         due("36: below", x.load(-1), BEYOND);
         sheet(x, 1, 16, 99, 0, 5, 6, 7, 8, 9);
@@ -1147,6 +1206,8 @@ public final class PromisesTest {
             x.go(1);
         }
         due("39: no finding is taken back", x.status(3), 1);
+        due("39: a new one then", x.teapot(1, 9), 2);
+        of("39: as at first", x, 2, 1, 9, 20, 0, 1, 0, 0);
     }
 
     private static void promise40() {
