@@ -1,4 +1,4 @@
-/** What the tests share: the findings, comparing, and feeding a text. */
+/** What the tests share: the findings, comparing, making boroughs and sheets, and feeding a text. */
 final class Check {
     static final int BEYOND = -1000001;
     static final int FULL = -1000002;
@@ -24,6 +24,28 @@ final class Check {
 
     static void holds(String what, boolean isSo) {
         due(what, isSo ? 1 : 0, 1);
+    }
+
+    /** A new object with teapots of these kinds, all with HEAT 90. */
+    static PourElection with(int... kinds) {
+        PourElection x = new PourElection();
+        for (int kind : kinds) {
+            x.teapot(kind, 90);
+        }
+        return x;
+    }
+
+    static void sheet(PourElection x, int s, int bits, int... numbers) {
+        x.sheet(s, bits, numbers.length);
+        for (int i = 0; i < numbers.length; i++) {
+            x.write(s, i, numbers[i]);
+        }
+    }
+
+    static void of(String what, PourElection x, int teapot, int... want) {
+        for (int i = 0; i < want.length; i++) {
+            due(what + ": of(" + teapot + ", " + i + ")", x.of(teapot, i), want[i]);
+        }
     }
 
     static void feed(PourElection x, String text) {

@@ -14,28 +14,6 @@ public final class PromisesTest {
         Check.due(what, got, want);
     }
 
-    /** A new object with teapots of these kinds, all with HEAT 90. */
-    private static PourElection with(int... kinds) {
-        PourElection x = new PourElection();
-        for (int kind : kinds) {
-            x.teapot(kind, 90);
-        }
-        return x;
-    }
-
-    private static void sheet(PourElection x, int s, int bits, int... numbers) {
-        x.sheet(s, bits, numbers.length);
-        for (int i = 0; i < numbers.length; i++) {
-            x.write(s, i, numbers[i]);
-        }
-    }
-
-    private static void of(String what, PourElection x, int teapot, int... want) {
-        for (int i = 0; i < want.length; i++) {
-            due(what + ": of(" + teapot + ", " + i + ")", x.of(teapot, i), want[i]);
-        }
-    }
-
     private static void promise1() {
         PourElection x = new PourElection();
         int[] counts = {0, 0, 0, 0, 0, 0, 1, 0};
@@ -80,7 +58,7 @@ public final class PromisesTest {
     }
 
     private static void promise3() {
-        PourElection x = with(0, 2, 2);
+        PourElection x = Check.with(0, 2, 2);
         due("3: most merit wins, of two the least", x.wardOf(1, 2), 1);
         due("3: all alike: the least", x.wardOf(0, 2), 0);
         x.change(0, 2, 0);
@@ -110,7 +88,7 @@ public final class PromisesTest {
     }
 
     private static void promise4() {
-        PourElection x = with(0);
+        PourElection x = Check.with(0);
         due("4: was", x.trial(0, 5), 0);
         due("4: is", x.trial(0, 2), 5);
         due("4: last place", x.trial(5, 0), 5);
@@ -146,20 +124,20 @@ public final class PromisesTest {
         due("6: full", x.teapot(0, 0), FULL);
         due("6: beyond is asked first", x.teapot(7, 0), BEYOND);
         due("6: eight", x.count(1), 8);
-        of("6: the first", x, 0, 0, 0, 20, 0, 1, 0, 0);
-        of("6: the seventh", x, 6, 6, 98, 20, 0, 1, 0, 0);
-        of("6: the last", x, 7, 0, 99, 20, 0, 1, 0, 0);
+        Check.of("6: the first", x, 0, 0, 0, 20, 0, 1, 0, 0);
+        Check.of("6: the seventh", x, 6, 6, 98, 20, 0, 1, 0, 0);
+        Check.of("6: the last", x, 7, 0, 99, 20, 0, 1, 0, 0);
     }
 
     private static void promise7() {
-        PourElection x = with(0, 1, 2, 3, 4, 5, 6);
-        of("7: teapot", x, 0, 0, 90, 20, 0, 1, 0, 0, 10, 0, 20);
-        of("7: brown", x, 1, 1, 90, 20, 0, 1, 0, 0, 8, 1, 40);
-        of("7: silver", x, 2, 2, 90, 20, 0, 1, 0, 0, 20, 1, 15);
-        of("7: cosy", x, 3, 3, 90, 20, 0, 1, 0, 0, 2, 1, 30);
-        of("7: rose", x, 4, 4, 90, 20, 0, 1, 0, 0, 1, 1, 6);
-        of("7: urn", x, 5, 5, 90, 20, 0, 1, 0, 0, 5, 0, 99);
-        of("7: gilt", x, 6, 6, 90, 20, 0, 1, 0, 0, 15, 1, 15);
+        PourElection x = Check.with(0, 1, 2, 3, 4, 5, 6);
+        Check.of("7: teapot", x, 0, 0, 90, 20, 0, 1, 0, 0, 10, 0, 20);
+        Check.of("7: brown", x, 1, 1, 90, 20, 0, 1, 0, 0, 8, 1, 40);
+        Check.of("7: silver", x, 2, 2, 90, 20, 0, 1, 0, 0, 20, 1, 15);
+        Check.of("7: cosy", x, 3, 3, 90, 20, 0, 1, 0, 0, 2, 1, 30);
+        Check.of("7: rose", x, 4, 4, 90, 20, 0, 1, 0, 0, 1, 1, 6);
+        Check.of("7: urn", x, 5, 5, 90, 20, 0, 1, 0, 0, 5, 0, 99);
+        Check.of("7: gilt", x, 6, 6, 90, 20, 0, 1, 0, 0, 15, 1, 15);
         x.change(6, 1, 50);
         due("7: gilt of 50 wets", x.of(6, 8), 1);
         x.change(6, 1, 49);
@@ -180,7 +158,7 @@ public final class PromisesTest {
     }
 
     private static void promise8() {
-        PourElection x = with(2, 2);
+        PourElection x = Check.with(2, 2);
         int[] top = {6, 99, 99, 9, 1, 99999, 9999};
         int[] were = {2, 90, 20, 0, 1, 0, 0};
         for (int what = 0; what < 7; what++) {
@@ -199,7 +177,7 @@ public final class PromisesTest {
     }
 
     private static void promise9() {
-        PourElection x = with(0, 1, 2, 3, 4, 5, 6);
+        PourElection x = Check.with(0, 1, 2, 3, 4, 5, 6);
         int[] want = {60, 70, 75, 70, 35, 30, 73};
         int[] odd = {65, 75, 80, 75, 37, 32, 79};
         for (int i = 0; i < 7; i++) {
@@ -234,7 +212,7 @@ public final class PromisesTest {
     }
 
     private static void promise9AtLeast() {
-        PourElection x = with(0, 1, 2, 3, 4, 5, 6);
+        PourElection x = Check.with(0, 1, 2, 3, 4, 5, 6);
         int[] want = {0, 10, 5, 10, 5, 0, 0};
         x.ward(1, 1, 99);
         x.ward(2, 1, 99);
@@ -247,18 +225,18 @@ public final class PromisesTest {
     }
 
     private static void promise10() {
-        PourElection x = with(0);
+        PourElection x = Check.with(0);
         due("10: one leads", x.go(1), 0);
-        of("10: a day", x, 0, 0, 80, 10, 0, 1, 10, 1);
+        Check.of("10: a day", x, 0, 0, 80, 10, 0, 1, 10, 1);
         x.go(1);
-        of("10: two days", x, 0, 0, 70, 0, 0, 1, 20, 2);
+        Check.of("10: two days", x, 0, 0, 70, 0, 0, 1, 20, 2);
         x.go(3);
-        of("10: five days", x, 0, 0, 40, 0, 0, 1, 20, 2);
+        Check.of("10: five days", x, 0, 0, 40, 0, 0, 1, 20, 2);
         x.go(1);
-        of("10: filled", x, 0, 0, 90, 20, 0, 1, 20, 2);
+        Check.of("10: filled", x, 0, 0, 90, 20, 0, 1, 20, 2);
         due("10: day", x.now(0), 6);
         x.go(60);
-        of("10: eleven fillings", x, 0, 0, 90, 20, 0, 1, 220, 22);
+        Check.of("10: eleven fillings", x, 0, 0, 90, 20, 0, 1, 220, 22);
         due("10: 0", x.go(0), BEYOND);
         due("10: below", x.go(-1), BEYOND);
         due("10: 61", x.go(61), BEYOND);
@@ -270,52 +248,52 @@ public final class PromisesTest {
     }
 
     private static void promise10Many() {
-        PourElection x = with(2, 1, 0, 6);
+        PourElection x = Check.with(2, 1, 0, 6);
         x.change(1, 1, 61);
         x.change(2, 4, 0);
         x.change(3, 2, 4);
         x.change(3, 1, 49);
         due("10: brown leads", x.go(1), 1);
-        of("10: silver", x, 0, 2, 70, 10, 1, 1, 0, 0);
-        of("10: brown", x, 1, 1, 53, 10, 1, 1, 10, 1);
-        of("10: the broken one", x, 2, 0, 90, 20, 0, 0, 0, 0);
-        of("10: gilt", x, 3, 6, 34, 0, 0, 1, 0, 0);
+        Check.of("10: silver", x, 0, 2, 70, 10, 1, 1, 0, 0);
+        Check.of("10: brown", x, 1, 1, 53, 10, 1, 1, 10, 1);
+        Check.of("10: the broken one", x, 2, 0, 90, 20, 0, 0, 0, 0);
+        Check.of("10: gilt", x, 3, 6, 34, 0, 0, 1, 0, 0);
         due("10: then", x.go(1), 1);
-        of("10: silver", x, 0, 2, 50, 0, 2, 1, 0, 0);
-        of("10: brown", x, 1, 1, 45, 0, 1, 1, 20, 2);
-        of("10: gilt pours no more", x, 3, 6, 19, 0, 0, 1, 0, 0);
+        Check.of("10: silver", x, 0, 2, 50, 0, 2, 1, 0, 0);
+        Check.of("10: brown", x, 1, 1, 45, 0, 1, 1, 20, 2);
+        Check.of("10: gilt pours no more", x, 3, 6, 19, 0, 0, 1, 0, 0);
         x.go(4);
-        of("10: silver is filled", x, 0, 2, 90, 15, 2, 1, 0, 0);
-        of("10: brown is filled", x, 1, 1, 90, 40, 1, 1, 20, 2);
-        of("10: the broken one is not", x, 2, 0, 90, 20, 0, 0, 0, 0);
-        of("10: gilt is filled", x, 3, 6, 90, 15, 0, 1, 0, 0);
+        Check.of("10: silver is filled", x, 0, 2, 90, 15, 2, 1, 0, 0);
+        Check.of("10: brown is filled", x, 1, 1, 90, 40, 1, 1, 20, 2);
+        Check.of("10: the broken one is not", x, 2, 0, 90, 20, 0, 0, 0, 0);
+        Check.of("10: gilt is filled", x, 3, 6, 90, 15, 0, 1, 0, 0);
     }
 
     private static void promise10Edges() {
-        PourElection x = with(2);
+        PourElection x = Check.with(2);
         x.change(0, 3, 9);
         x.change(0, 5, 99995);
         x.change(0, 6, 9999);
         x.go(1);
-        of("10: no further", x, 0, 2, 70, 10, 9, 1, 99999, 9999);
-        PourElection y = with(2);
+        Check.of("10: no further", x, 0, 2, 70, 10, 9, 1, 99999, 9999);
+        PourElection y = Check.with(2);
         y.ward(0, 0, 0);
         due("10: without voters", y.go(1), 0);
-        of("10: nothing is poured", y, 0, 2, 70, 20, 0, 1, 0, 0);
-        PourElection z = with(2, 0);
+        Check.of("10: nothing is poured", y, 0, 2, 70, 20, 0, 1, 0, 0);
+        PourElection z = Check.with(2, 0);
         z.ward(0, 0, 25);
         z.go(1);
-        of("10: as far as it has any", z, 0, 2, 70, 0, 1, 1, 20, 1);
-        of("10: the other as well", z, 1, 0, 80, 0, 0, 1, 0, 0);
-        PourElection one = with(2);
+        Check.of("10: as far as it has any", z, 0, 2, 70, 0, 1, 1, 20, 1);
+        Check.of("10: the other as well", z, 1, 0, 80, 0, 0, 1, 0, 0);
+        PourElection one = Check.with(2);
         one.change(0, 2, 1);
         one.go(1);
-        of("10: one cup is enough", one, 0, 2, 70, 0, 1, 1, 1, 1);
-        PourElection few = with(2);
+        Check.of("10: one cup is enough", one, 0, 2, 70, 0, 1, 1, 1, 1);
+        PourElection few = Check.with(2);
         few.ward(0, 0, 1);
         few.go(1);
-        of("10: one voter is enough", few, 0, 2, 70, 19, 1, 1, 1, 1);
-        PourElection w = with(1, 1);
+        Check.of("10: one voter is enough", few, 0, 2, 70, 19, 1, 1, 1, 1);
+        PourElection w = Check.with(1, 1);
         w.change(0, 2, 11);
         w.change(1, 2, 10);
         w.change(1, 1, 89);
@@ -324,7 +302,7 @@ public final class PromisesTest {
     }
 
     private static void promise10Cold() {
-        PourElection x = with(0, 1, 2, 3, 4, 5, 6);
+        PourElection x = Check.with(0, 1, 2, 3, 4, 5, 6);
         x.go(1);
         int[] heats = {80, 82, 70, 88, 89, 85, 75};
         int[] dribbles = {0, 1, 1, 1, 1, 0, 1};
@@ -349,7 +327,7 @@ public final class PromisesTest {
 
     /** No 512 calls reach day 99999, so this goes on behind them: it asks only our own program. */
     private static void promise10LastDays() {
-        PourElection x = with(0);
+        PourElection x = Check.with(0);
         for (int i = 0; i < 1666; i++) {
             x.go(60);
         }
@@ -381,7 +359,7 @@ public final class PromisesTest {
         for (int what = 0; what < 8; what++) {
             due("11: of none " + what, x.now(what), none[what]);
         }
-        x = with(0, 1, 2, 3);
+        x = Check.with(0, 1, 2, 3);
         x.change(0, 5, 7);
         x.change(0, 4, 0);
         x.change(0, 1, 99);
@@ -399,13 +377,13 @@ public final class PromisesTest {
         }
         x.go(7);
         due("11: day", x.now(0), 7);
-        due("11: the first wins everywhere", with(0).now(5), 63);
+        due("11: the first wins everywhere", Check.with(0).now(5), 63);
         for (int i = 0; i < 4; i++) {
             x.change(i, 2, 0);
         }
         due("11: no cup, no winner", x.now(5), 0);
         due("11: no cups", x.now(3), 0);
-        x = with(0, 0, 0, 0, 0, 0, 0, 0);
+        x = Check.with(0, 0, 0, 0, 0, 0, 0, 0);
         int[] eight = {0, 0, 0, 160, 255, 63, 0, 0};
         for (int what = 0; what < 8; what++) {
             due("11: of eight " + what, x.now(what), eight[what]);
@@ -415,7 +393,7 @@ public final class PromisesTest {
     }
 
     private static void promise12() {
-        PourElection x = with(0);
+        PourElection x = Check.with(0);
         int[] heats = {90, 80, 70, 60, 50, 40, 90, 80};
         int[] cups = {20, 10, 0, 0, 0, 0, 20, 10};
         int[] votes = {0, 10, 20, 20, 20, 20, 20, 30};
@@ -441,7 +419,7 @@ public final class PromisesTest {
 
     /** The urn, with votes ahead, is overtaken by the teapot behind two days. */
     private static PourElection race() {
-        PourElection x = with(5, 0);
+        PourElection x = Check.with(5, 0);
         x.change(0, 5, 15);
         return x;
     }
@@ -472,7 +450,7 @@ public final class PromisesTest {
         x.change(0, 4, 0);
         due("14: broken", x.when(0), NONE);
         due("14: the other", x.when(1), 0);
-        PourElection y = with(0, 0);
+        PourElection y = Check.with(0, 0);
         y.change(0, 5, 340);
         y.change(1, 1, 60);
         y.change(0, 2, 0);
@@ -486,14 +464,14 @@ public final class PromisesTest {
     }
 
     private static void promise15() {
-        PourElection x = with(0);
+        PourElection x = Check.with(0);
         due("15: none", x.votes(0, 0), 0);
         due("15: a few", x.votes(0, 1), 1);
         due("15: as many", x.votes(0, 20), 2);
         due("15: more", x.votes(0, 21), 7);
         due("15: on day 200", x.votes(0, 680), 200);
         due("15: too many", x.votes(0, 681), NONE);
-        PourElection y = with(0);
+        PourElection y = Check.with(0);
         for (int i = 0; i < 6; i++) {
             y.ward(i, 0, 5);
         }
@@ -509,7 +487,7 @@ public final class PromisesTest {
 
     private static void promise16() {
         due("16: no teapots", new PourElection().dry(), 0);
-        PourElection x = with(0);
+        PourElection x = Check.with(0);
         due("16: behind two", x.dry(), 2);
         x.teapot(5, 90);
         x.change(1, 2, 45);
@@ -518,7 +496,7 @@ public final class PromisesTest {
         due("16: never", x.dry(), NONE);
         x.change(1, 4, 0);
         due("16: of those that stand", x.dry(), 2);
-        PourElection y = with(1);
+        PourElection y = Check.with(1);
         y.change(0, 2, 99);
         due("16: behind a filling", y.dry(), 10);
         y.ward(0, 0, 0);
@@ -528,7 +506,7 @@ public final class PromisesTest {
     }
 
     private static void promise17() {
-        PourElection x = with(0, 0);
+        PourElection x = Check.with(0, 0);
         due("17: as good", x.heatFor(0, 1), 30);
         due("17: better", x.heatFor(1, 1), 31);
         due("17: at once", x.heatFor(0, 0), 0);
@@ -542,21 +520,21 @@ public final class PromisesTest {
         due("17: days below", x.heatFor(0, -1), BEYOND);
         x.change(1, 4, 0);
         due("17: broken", x.heatFor(1, 60), NONE);
-        PourElection y = with(0, 0);
+        PourElection y = Check.with(0, 0);
         y.ward(0, 1, 99);
         y.change(0, 1, 98);
         due("17: the hottest", y.heatFor(1, 1), 99);
     }
 
     private static void promise18() {
-        PourElection x = with(0);
+        PourElection x = Check.with(0);
         due("18: all alike", x.kindFor(0, 1), 0);
         due("18: at once", x.kindFor(0, 0), 0);
         due("18: brown and urn", x.kindFor(0, 10), 1);
         due("18: urn", x.kindFor(0, 12), 5);
         due("18: behind sixty", x.kindFor(0, 60), 5);
         due("18: nothing has changed", x.of(0, 0), 0);
-        PourElection y = with(6, 0);
+        PourElection y = Check.with(6, 0);
         y.change(0, 1, 60);
         y.change(1, 1, 61);
         y.change(1, 0, 1);
@@ -570,7 +548,7 @@ public final class PromisesTest {
     }
 
     private static void promise19() {
-        PourElection x = with(0, 0);
+        PourElection x = Check.with(0, 0);
         x.change(0, 1, 0);
         x.change(0, 5, 5);
         due("19: six cups", x.cupsFor(1, 1), 6);
@@ -590,7 +568,7 @@ public final class PromisesTest {
     }
 
     private static void promise20() {
-        PourElection x = with(0);
+        PourElection x = Check.with(0);
         x.ward(3, 0, 15);
         due("20: the most voters", x.tryFor(0, 1), 3);
         due("20: at once", x.tryFor(0, 0), 0);
@@ -609,7 +587,7 @@ public final class PromisesTest {
 
     /** With 4 cups in it wards 2 and 4 are alike on this day, but not when their place comes again. */
     private static void promise20Place() {
-        PourElection x = with(5);
+        PourElection x = Check.with(5);
         x.change(0, 2, 4);
         for (int i = 0; i < 6; i++) {
             x.ward(i, 0, i == 4 ? 12 : i == 2 ? 4 : 0);
@@ -624,7 +602,7 @@ public final class PromisesTest {
     }
 
     private static void promise21() {
-        PourElection x = with(0, 0, 0);
+        PourElection x = Check.with(0, 0, 0);
         x.change(0, 1, 60);
         x.change(1, 1, 60);
         due("21: both others", x.smash(2, 1), 3);
@@ -645,7 +623,7 @@ public final class PromisesTest {
 
     /** Fewer count ahead of a lesser set: one alone (bit 7) instead of the two with bits 0 and 1. */
     private static void promise21Fewest() {
-        PourElection x = with(0, 0, 0, 0, 0, 0, 0, 0);
+        PourElection x = Check.with(0, 0, 0, 0, 0, 0, 0, 0);
         x.change(7, 1, 60);
         due("21: the one that wins", x.smash(0, 1), 128);
         due("21: those ahead of it too", x.smash(2, 1), 131);
@@ -659,7 +637,7 @@ public final class PromisesTest {
 
     /** Teapot 2 leads as soon as either of the others leaves it one ward. */
     private static void promise21Least() {
-        PourElection x = with(0, 0, 0);
+        PourElection x = Check.with(0, 0, 0);
         int[] heats = {60, 80, 70};
         int[] votes = {10, 10, 15};
         for (int i = 0; i < 3; i++) {
@@ -676,7 +654,7 @@ public final class PromisesTest {
     }
 
     private static void promise22() {
-        PourElection x = with(0);
+        PourElection x = Check.with(0);
         due("22: alone", x.liked(0, 0), 100);
         x.teapot(0, 80);
         due("22: the hotter", x.liked(0, 0), 15);
@@ -695,26 +673,26 @@ public final class PromisesTest {
     }
 
     private static void promise23() {
-        PourElection x = with(0, 0);
+        PourElection x = Check.with(0, 0);
         x.change(1, 1, 80);
         due("23: sheet missing", x.fits(0, 0, 0), MISSING);
         due("23: missing ahead of teapot", x.fits(0, 9, 9), MISSING);
         due("23: sheet above", x.fits(4, 9, 9), BEYOND);
         due("23: sheet below", x.fits(-1, 0, 0), BEYOND);
-        sheet(x, 0, 16);
+        Check.sheet(x, 0, 16);
         due("23: nothing asked", x.fits(0, 0, 0), 100);
-        sheet(x, 0, 16, 0, 1);
+        Check.sheet(x, 0, 16, 0, 1);
         due("23: it wins", x.fits(0, 0, 0), 15);
         due("23: another ward", x.fits(0, 0, 1), 0);
-        sheet(x, 0, 8, 0, 0);
+        Check.sheet(x, 0, 8, 0, 0);
         due("23: it does not win", x.fits(0, 0, 0), 85);
-        sheet(x, 0, 8, 0, 255);
+        Check.sheet(x, 0, 8, 0, 255);
         due("23: any", x.fits(0, 0, 0), 100);
-        sheet(x, 0, 32, 1);
+        Check.sheet(x, 0, 32, 1);
         due("23: not so now", x.fits(0, 0, 0), 0);
-        sheet(x, 0, 32, -1, -2);
+        Check.sheet(x, 0, 32, -1, -2);
         due("23: -2 is no any", x.fits(0, 0, 0), 0);
-        sheet(x, 3, 32, -1, -1, -1, -1, -1, -1, -1, -1, -1, -1, -1, -1, 77);
+        Check.sheet(x, 3, 32, -1, -1, -1, -1, -1, -1, -1, -1, -1, -1, -1, -1, 77);
         due("23: the 13th is not asked", x.fits(3, 0, 0), 100);
         x.write(3, 11, 77);
         due("23: the 12th is", x.fits(3, 0, 0), 0);
@@ -726,21 +704,21 @@ public final class PromisesTest {
     }
 
     private static void promise24() {
-        PourElection x = with(0);
+        PourElection x = Check.with(0);
         due("24: sheet missing", x.kinds(3, 0), MISSING);
         due("24: missing ahead of teapot", x.kinds(3, 5), MISSING);
         due("24: sheet above", x.kinds(4, 0), BEYOND);
         due("24: sheet below", x.kinds(-1, 0), BEYOND);
         int[] heats = {80, 82, 70, 88, 89, 85, 75};
         for (int kind = 0; kind < 7; kind++) {
-            sheet(x, 3, 8, 90, heats[kind]);
+            Check.sheet(x, 3, 8, 90, heats[kind]);
             due("24: kind " + kind, x.kinds(3, 0), 1 << kind);
         }
-        sheet(x, 3, 8, 90, -1);
+        Check.sheet(x, 3, 8, 90, -1);
         due("24: any", x.kinds(3, 0), 127);
-        sheet(x, 3, 8, 89);
+        Check.sheet(x, 3, 8, 89);
         due("24: not so now", x.kinds(3, 0), 0);
-        sheet(x, 3, 8);
+        Check.sheet(x, 3, 8);
         due("24: nothing asked", x.kinds(3, 0), 127);
         x.sheet(3, 16, 40);
         for (int i = 0; i < 40; i++) {
@@ -759,7 +737,7 @@ public final class PromisesTest {
     }
 
     private static void promise25() {
-        PourElection x = with(0, 0, 0, 0, 0);
+        PourElection x = Check.with(0, 0, 0, 0, 0);
         x.change(4, 1, 33);
         x.ward(2, 0, 7);
         due("25: one", x.elect(1), 0);
@@ -789,7 +767,7 @@ public final class PromisesTest {
     }
 
     private static void promise26() {
-        PourElection x = with(0);
+        PourElection x = Check.with(0);
         x.teapot(0, 80);
         due("26: 9 of 400", x.odds(0, 0, 2, 0), 9);
         due("26: below", x.odds(0, 0, 2, 1), 400);
@@ -878,14 +856,14 @@ public final class PromisesTest {
         PourElection x = new PourElection();
         due("30: three items", Check.read(x,
             "rose heat 60 cups 6 dribble 9 votes 99999 broken;ward 5 voters 99 taste 0;trial 0 5"), 3);
-        of("30: rose", x, 0, 4, 60, 6, 9, 0, 99999, 0);
+        Check.of("30: rose", x, 0, 4, 60, 6, 9, 0, 99999, 0);
         due("30: voters", x.wardOf(5, 0), 99);
         due("30: taste", x.wardOf(5, 1), 0);
         due("30: trial", x.listed(0), 5);
         due("30: the tape is empty", x.count(5), 0);
         due("30: blanks or none", Check.read(x, "  urn   ; brown cups0 votes  007;ward3;ward4taste05  "), 4);
-        of("30: urn as at first", x, 1, 5, 90, 20, 0, 1, 0, 0);
-        of("30: brown", x, 2, 1, 90, 0, 0, 1, 7, 0);
+        Check.of("30: urn as at first", x, 1, 5, 90, 20, 0, 1, 0, 0);
+        Check.of("30: brown", x, 2, 1, 90, 0, 0, 1, 7, 0);
         due("30: taste alone", x.wardOf(4, 1), 5);
         due("30: voters stay", x.wardOf(4, 0), 10);
         due("30: a taste of 99", Check.read(x, "ward 1 taste 99"), 1);
@@ -905,7 +883,7 @@ public final class PromisesTest {
     }
 
     private static void fault(String text, int place) {
-        PourElection x = with(0, 0, 0, 0, 0, 0);
+        PourElection x = Check.with(0, 0, 0, 0, 0, 0);
         due("30: fault in '" + text + "'", Check.read(x, text), -1 - place);
         due("30: the tape is empty", x.count(5), 0);
         due("30: no teapot more", x.count(1), 6);
@@ -980,7 +958,7 @@ public final class PromisesTest {
     }
 
     private static void promise31() {
-        PourElection x = with(0, 0);
+        PourElection x = Check.with(0, 0);
         due("31: spot 0", x.hold(0, 1), 1);
         due("31: spot 9", x.hold(9, 0), 1);
         due("31: holds", x.as(0, 0), 1);
@@ -997,7 +975,7 @@ public final class PromisesTest {
 
     private static void promise32() {
         int[] under = {127, 1 << 1 | 1 << 3 | 1 << 4, 1 << 2 | 1 << 6, 1 << 3 | 1 << 4, 1 << 4, 1 << 5, 1 << 6};
-        PourElection x = with(0, 1, 2, 3, 4, 5, 6);
+        PourElection x = Check.with(0, 1, 2, 3, 4, 5, 6);
         for (int i = 0; i < 7; i++) {
             x.hold(i, i);
             for (int kind = 0; kind < 7; kind++) {
@@ -1051,7 +1029,7 @@ public final class PromisesTest {
     }
 
     private static void promise34() {
-        PourElection x = with(0);
+        PourElection x = Check.with(0);
         due("34: missing", x.write(0, 0, 1), MISSING);
         due("34: missing ahead of number", x.write(0, -1, 1), MISSING);
         due("34: sheet above", x.write(4, 0, 1), BEYOND);
@@ -1086,8 +1064,8 @@ public final class PromisesTest {
 
     private static void promise35() {
         PourElection x = new PourElection();
-        sheet(x, 0, 8, 1, 2, 3, 4, 5, 6);
-        sheet(x, 1, 8, 11, 12, 13);
+        Check.sheet(x, 0, 8, 1, 2, 3, 4, 5, 6);
+        Check.sheet(x, 1, 8, 11, 12, 13);
         x.sheet(2, 16, 6);
         due("35: two", x.copy(1, 1, 0, 4, 2), 2);
         tastes("35: came", x, 0, 1, 2, 3, 4, 12, 13);
@@ -1119,47 +1097,47 @@ public final class PromisesTest {
         due("36: the last is missing too", x.load(3), MISSING);
         due("36: above", x.load(4), BEYOND);
         due("36: below", x.load(-1), BEYOND);
-        sheet(x, 1, 16, 99, 0, 5, 6, 7, 8, 9);
+        Check.sheet(x, 1, 16, 99, 0, 5, 6, 7, 8, 9);
         due("36: as many as there are wards", x.load(1), 6);
         due("36: first", x.wardOf(0, 1), 99);
         due("36: last", x.wardOf(5, 1), 8);
-        sheet(x, 1, 16, 1, 2, 100, 3);
+        Check.sheet(x, 1, 16, 1, 2, 100, 3);
         due("36: up to 100", x.load(1), 2);
         due("36: came", x.wardOf(1, 1), 2);
         due("36: stays", x.wardOf(2, 1), 5);
         due("36: does not come", x.wardOf(3, 1), 6);
-        sheet(x, 1, 16, -1, 2);
+        Check.sheet(x, 1, 16, -1, 2);
         due("36: none", x.load(1), 0);
-        sheet(x, 1, 16);
+        Check.sheet(x, 1, 16);
         due("36: empty", x.load(1), 0);
         due("36: as it was", x.wardOf(0, 1), 1);
-        sheet(x, 1, 8, 77);
+        Check.sheet(x, 1, 8, 77);
         due("36: one", x.load(1), 1);
     }
 
     private static void promise37() {
-        PourElection x = with(0, 0, 0);
+        PourElection x = Check.with(0, 0, 0);
         due("37: missing", x.judge(2), MISSING);
         due("37: above", x.judge(4), BEYOND);
         due("37: below", x.judge(-1), BEYOND);
         x.change(0, 5, 5);
         x.change(1, 5, 99999);
-        sheet(x, 2, 32, 5, 99999, 0);
+        Check.sheet(x, 2, 32, 5, 99999, 0);
         due("37: all are so", x.judge(2), 0);
-        sheet(x, 2, 32, 5, 99999);
+        Check.sheet(x, 2, 32, 5, 99999);
         due("37: of the first two", x.judge(2), 0);
-        sheet(x, 2, 32, 5, 99999, 0, 0);
+        Check.sheet(x, 2, 32, 5, 99999, 0, 0);
         due("37: there is no fourth", x.judge(2), 4);
-        sheet(x, 2, 32, 5, -1, 1);
+        Check.sheet(x, 2, 32, 5, -1, 1);
         due("37: the second is not", x.judge(2), 2);
-        sheet(x, 2, 32, 6, -1, 1);
+        Check.sheet(x, 2, 32, 6, -1, 1);
         due("37: the first is not", x.judge(2), 1);
-        sheet(x, 2, 32);
+        Check.sheet(x, 2, 32);
         due("37: none asked", x.judge(2), 0);
     }
 
     private static void promise38() {
-        PourElection x = with(0);
+        PourElection x = Check.with(0);
         due("38: kept", x.image(), 1);
         x.teapot(1, 1);
         due("38: kept anew", x.image(), 1);
@@ -1170,7 +1148,7 @@ public final class PromisesTest {
     }
 
     private static void promise39() {
-        PourElection x = with(0, 2);
+        PourElection x = Check.with(0, 2);
         due("39: nothing", x.undo(), NONE);
         x.go(3);
         x.hold(4, 1);
@@ -1201,17 +1179,17 @@ public final class PromisesTest {
             due("39: teapots", x.count(1), 2);
             due("39: the sheet is as it was left", x.judge(0), MISSING);
             due("39: the tape too", x.count(5), 7);
-            of("39: teapot", x, 0, 0, 60, 0, 0, 1, 10, 1);
-            of("39: silver", x, 1, 2, 30, 0, 2, 1, 10, 1);
+            Check.of("39: teapot", x, 0, 0, 60, 0, 0, 1, 10, 1);
+            Check.of("39: silver", x, 1, 2, 30, 0, 2, 1, 10, 1);
             x.go(1);
         }
         due("39: no finding is taken back", x.status(3), 1);
         due("39: a new one then", x.teapot(1, 9), 2);
-        of("39: as at first", x, 2, 1, 9, 20, 0, 1, 0, 0);
+        Check.of("39: as at first", x, 2, 1, 9, 20, 0, 1, 0, 0);
     }
 
     private static void promise40() {
-        PourElection x = with(0);
+        PourElection x = Check.with(0);
         due("40: nothing", x.tear(), 0);
         x.image();
         due("40: something", x.tear(), 1);
@@ -1223,7 +1201,7 @@ public final class PromisesTest {
     }
 
     private static void promise41() {
-        PourElection x = with(0, 1, 2);
+        PourElection x = Check.with(0, 1, 2);
         x.go(2);
         x.change(0, 4, 0);
         x.change(0, 5, 7);

@@ -8,7 +8,9 @@ import java.util.Random;
 
 /** Runs of calls drawn with a fixed seed: the program must answer each as the model does. */
 public final class RandomRunsTest {
-    private static final int CALLS = 500;
+    // With the last step and what is asked at the end no object is used for more than 512 calls.
+    private static final int CALLS = 250;
+    private static final int FAR_CALLS = 500;
     private static final int[] EDGES = {-2, -1, 0, 1, 5, 6, 7, 8, 9, 10, 12, 20, 21, 39, 40, 41, 60, 61, 99, 100, 101,
         9999, 10000, 99999, 100000, 255, 128, 65535, 32768, Integer.MIN_VALUE, Integer.MAX_VALUE, -1000001};
     private static final String[] WORDS = {"teapot", "brown", "silver", "cosy", "rose", "urn", "gilt", "ward", "trial",
@@ -111,24 +113,23 @@ public final class RandomRunsTest {
         int n = below(15);
         boolean alike = alike("sheet", s, below(4) == 0 ? 8 : 16, n);
         for (int i = 0; alike && i < n; i++) {
-            int v = below(3) == 0 ? -1 : what == 1 || what == 6 ? program.ahead(teapot, what, i) : below(100);
-            told.add("(ahead asked)");
+            int v = below(3) == 0 ? -1 : model.ahead(teapot, what, i);
             alike = alike("write", s, i, below(60) == 0 ? v + 1 : v);
         }
         return alike && alike("fits", s, teapot, below(6)) && alike("kinds", s, teapot);
     }
 
     private boolean tellVotes(int s) throws ReflectiveOperationException {
-        int n = Math.min(40, Math.max(0, program.count(1) + below(3) - 1));
+        int n = Math.min(40, Math.max(0, model.count(1) + below(3) - 1));
         boolean alike = alike("sheet", s, 32, n);
         for (int i = 0; alike && i < n; i++) {
-            alike = alike("write", s, i, i < program.count(1) ? program.of(i, 5) : 0);
+            alike = alike("write", s, i, i < model.count(1) ? model.of(i, 5) : 0);
         }
         return alike && alike("judge", s);
     }
 
     private boolean step() throws ReflectiveOperationException {
-        int pots = Math.max(1, program.count(1));
+        int pots = Math.max(1, model.count(1));
         int t = mostly(pots);
         switch (below(52)) {
             case 0: return alike("ward", mostly(6), mostly(2), mostly(below(2) == 0 ? 30 : 100));
@@ -173,8 +174,8 @@ public final class RandomRunsTest {
             case 46: return alike("count", mostly(8));
             case 47: return alike("status", mostly(8) - 1);
             case 48: return below(3) != 0 || alike("wipe") && feedAll(text());
-            case 49: return program.count(1) == 0 || tellWon(below(4), below(pots), 6);
-            case 50: return program.count(1) == 0 || tellWon(below(4), below(pots), 1);
+            case 49: return model.count(1) == 0 || tellWon(below(4), below(pots), 6);
+            case 50: return model.count(1) == 0 || tellWon(below(4), below(pots), 1);
             default: return tellVotes(below(4));
         }
     }
@@ -196,7 +197,7 @@ public final class RandomRunsTest {
 
     private boolean ended() throws ReflectiveOperationException {
         boolean alike = true;
-        for (int t = 0; alike && t < program.count(1); t++) {
+        for (int t = 0; alike && t < model.count(1); t++) {
             for (int what = 0; alike && what < 10; what++) {
                 alike = alike("of", t, what);
             }
@@ -222,13 +223,20 @@ public final class RandomRunsTest {
     }
 
     public static void main(String[] args) throws ReflectiveOperationException {
-        int runs = args.length > 0 ? Integer.parseInt(args[0]) : 300;
+        int runs = args.length > 0 ? Integer.parseInt(args[0]) : 600;
         boolean alike = true;
         for (int seed = 0; alike && seed < runs; seed++) {
             alike = new RandomRunsTest(seed).run();
         }
         allEndsOfArguments();
         Check.end("RandomRunsTest");
+    }
+
+    private static RandomRunsTest farFrom(long seed) throws ReflectiveOperationException {
+        RandomRunsTest x = new RandomRunsTest(seed);
+        x.alike("teapot", 2, 50);
+        x.alike("sheet", 0, 8, 3);
+        return x;
     }
 
     /** Every call with every mixture of far arguments: nothing is thrown, and the model says the same. */
@@ -239,10 +247,11 @@ public final class RandomRunsTest {
         for (Method call : calls) {
             if (java.lang.reflect.Modifier.isPublic(call.getModifiers())) {
                 int many = (int) Math.pow(far.length, call.getParameterCount());
-                RandomRunsTest x = new RandomRunsTest(many);
-                x.alike("teapot", 2, 50);
-                x.alike("sheet", 0, 8, 3);
+                RandomRunsTest x = farFrom(many);
                 for (int mixture = 0; mixture < many; mixture++) {
+                    if (mixture > 0 && mixture % FAR_CALLS == 0) {
+                        x = farFrom(many);
+                    }
                     int[] args = new int[call.getParameterCount()];
                     int rest = mixture;
                     for (int i = 0; i < args.length; i++) {
