@@ -25,6 +25,10 @@ public final class LanguageTest {
         "import", "package", "new Object", "hashCode", "toString", "record", "float", "double", "Exact", "->", "::",
         "@", "static \\{", "protected", "native", "volatile", "Thread", "System\\.(?!arraycopy)"};
 
+    private static final Set<String> LIBRARY = Set.of("Math.max", "Math.min", "Math.abs", "Integer.bitCount",
+        "System.arraycopy");
+    private static final Set<String> MADE = Set.of("Borough", "Tape", "Sheet", "Teapot", "int");
+
     private LanguageTest() {
     }
 
@@ -83,6 +87,18 @@ public final class LanguageTest {
         Check.holds("texts are not joined by +", !Pattern.compile("\"\\s*\\+|\\+\\s*\"").matcher(code).find());
     }
 
+    /** Of the library's static calls and of what is made only these stand; all are in LANGUAGE.md's list. */
+    private static void library(String code) {
+        Matcher calls = Pattern.compile("\\b[A-Z]\\w*[a-z]\\w*\\.\\w+(?=\\()").matcher(code);
+        while (calls.find()) {
+            Check.holds("of the library: " + calls.group(), LIBRARY.contains(calls.group()));
+        }
+        Matcher made = Pattern.compile("\\bnew (\\w+)").matcher(code);
+        while (made.find()) {
+            Check.holds("made: " + made.group(1), MADE.contains(made.group(1)));
+        }
+    }
+
     private static void methods(String code) {
         Matcher m = Pattern.compile("\n( {4}| {8})(?:[a-z]+ )*[\\w\\[\\]]+ ?\\w*\\(([^)]*)\\) \\{\n(.*?)\n\\1\\}", Pattern.DOTALL).matcher(code);
         int seen = 0;
@@ -102,6 +118,7 @@ public final class LanguageTest {
         face();
         classes();
         words(code);
+        library(code);
         methods(code);
         Check.end("LanguageTest");
     }

@@ -123,6 +123,8 @@ public final class PromisesTest {
         }
         due("6: full", x.teapot(0, 0), FULL);
         due("6: beyond is asked first", x.teapot(7, 0), BEYOND);
+        x.change(3, 4, 0);
+        due("6: a broken one makes no room", x.teapot(0, 0), FULL);
         due("6: eight", x.count(1), 8);
         Check.of("6: the first", x, 0, 0, 0, 20, 0, 1, 0, 0);
         Check.of("6: the seventh", x, 6, 6, 98, 20, 0, 1, 0, 0);
@@ -388,6 +390,10 @@ public final class PromisesTest {
         for (int what = 0; what < 8; what++) {
             due("11: of eight " + what, x.now(what), eight[what]);
         }
+        for (int i = 0; i < 6; i++) {
+            x.trial(i, 2);
+        }
+        due("11: wards that no trial tells too", x.now(5), 63);
         due("11: above", x.now(8), BEYOND);
         due("11: below", x.now(-1), BEYOND);
     }
@@ -524,6 +530,11 @@ public final class PromisesTest {
         y.ward(0, 1, 99);
         y.change(0, 1, 98);
         due("17: the hottest", y.heatFor(1, 1), 99);
+        y.change(1, 2, 0);
+        due("17: its cups stay", y.heatFor(1, 1), NONE);
+        PourElection z = Check.with(0);
+        z.change(0, 4, 0);
+        due("17: no heat mends it", z.heatFor(0, 0), NONE);
     }
 
     private static void promise18() {
@@ -539,6 +550,8 @@ public final class PromisesTest {
         y.change(1, 1, 61);
         y.change(1, 0, 1);
         due("18: a rose is just right", y.kindFor(0, 1), 1);
+        y.change(1, 5, 500);
+        due("18: most votes though the other leads", y.kindFor(0, 1), 1);
         y.change(0, 2, 9);
         due("18: with few cups", y.kindFor(0, 1), 4);
         due("18: teapot", x.kindFor(1, 1), BEYOND);
@@ -565,6 +578,9 @@ public final class PromisesTest {
         due("19: teapot below", x.cupsFor(-1, 1), BEYOND);
         due("19: days", x.cupsFor(0, 61), BEYOND);
         due("19: days below", x.cupsFor(0, -1), BEYOND);
+        x.change(0, 4, 0);
+        x.change(1, 4, 0);
+        due("19: no cups mend it", x.cupsFor(0, 0), NONE);
     }
 
     private static void promise20() {
@@ -583,6 +599,7 @@ public final class PromisesTest {
         due("20: days", x.tryFor(0, 61), BEYOND);
         due("20: days below", x.tryFor(0, -1), BEYOND);
         promise20Place();
+        promise20Today();
     }
 
     /** With 4 cups in it wards 2 and 4 are alike on this day, but not when their place comes again. */
@@ -601,6 +618,20 @@ public final class PromisesTest {
         due("20: its own place is told anew", x.tryFor(0, 1), 2);
     }
 
+    /** Ward 2 is worth 15 on day 0; ward 0 is worth 12, and 8 more only if it tried on day 1 too. */
+    private static void promise20Today() {
+        PourElection x = Check.with(0, 2);
+        x.change(0, 1, 60);
+        x.change(1, 1, 80);
+        for (int i = 0; i < 6; i++) {
+            x.ward(i, 0, i == 0 ? 12 : i == 2 ? 15 : 0);
+        }
+        x.ward(0, 1, 0);
+        due("20: on this day alone", x.tryFor(0, 2), 2);
+        x.trial(1, 0);
+        due("20: the next day's place stays", x.tryFor(0, 2), 0);
+    }
+
     private static void promise21() {
         PourElection x = Check.with(0, 0, 0);
         x.change(0, 1, 60);
@@ -617,12 +648,49 @@ public final class PromisesTest {
         due("21: days", x.smash(0, 21), BEYOND);
         due("21: days below", x.smash(0, -1), BEYOND);
         due("21: twenty", x.smash(0, 20), 0);
+        promise21Eight();
         promise21Fewest();
+        promise21Broken();
         promise21Least();
     }
 
-    /** Fewer count ahead of a lesser set: one alone (bit 7) instead of the two with bits 0 and 1. */
+    /**
+     * Day 0 is won by 0, then 1, then 3, with 5 cups by the first two; day 1 by 2, with 5 cups, then 3.
+     * Without 0 and 1 (the lesser set) teapot 3 has 10 votes, and without 2 alone (the fewer) too.
+     */
     private static void promise21Fewest() {
+        PourElection x = Check.with(0, 0, 0, 0);
+        int[] heats = {90, 85, 70, 80};
+        int[] cups = {5, 5, 15, 20};
+        for (int i = 0; i < 4; i++) {
+            x.change(i, 1, heats[i]);
+            x.change(i, 2, cups[i]);
+        }
+        x.ward(0, 1, 90);
+        due("21: fewer ahead of a lesser set", x.smash(3, 2), 4);
+        x.change(2, 5, 10);
+        due("21: as many votes by a lesser number, so all three", x.smash(3, 1), 7);
+        x.change(2, 5, 0);
+        x.change(0, 2, 20);
+        due("21: of two pairs the lesser set", x.smash(3, 2), 3);
+    }
+
+    /** Were the broken one with a single cup (bit 2) to stand, it would take the day from both others. */
+    private static void promise21Broken() {
+        PourElection x = Check.with(0, 0, 0, 0);
+        int[] heats = {70, 70, 60, 90};
+        int[] votes = {10, 10, 0, 15};
+        for (int i = 0; i < 4; i++) {
+            x.change(i, 1, heats[i]);
+            x.change(i, 5, votes[i]);
+        }
+        x.change(2, 2, 1);
+        due("21: as it stands nobody must go", x.smash(3, 1), 0);
+        x.change(2, 4, 0);
+        due("21: a broken one stays broken", x.smash(3, 1), 3);
+    }
+
+    private static void promise21Eight() {
         PourElection x = Check.with(0, 0, 0, 0, 0, 0, 0, 0);
         x.change(7, 1, 60);
         due("21: the one that wins", x.smash(0, 1), 128);
@@ -701,6 +769,27 @@ public final class PromisesTest {
         due("23: ward", x.fits(3, 0, 6), BEYOND);
         due("23: ward below", x.fits(3, 0, -1), BEYOND);
         due("23: nothing has changed", x.wardOf(0, 1) + x.of(0, 6), 60);
+        promise23NextRound();
+    }
+
+    /** A rose beats a teapot only where it is just right: of HEAT 60 on day 0, filled with 90 on day 6. */
+    private static void promise23NextRound() {
+        PourElection x = Check.with(4, 0);
+        for (int i = 0; i < 6; i++) {
+            x.ward(i, 0, i == 0 ? 10 : 0);
+        }
+        x.change(0, 1, 60);
+        x.change(1, 1, 60);
+        Check.sheet(x, 0, 8, 0, -1, -1, -1, -1, -1, -1, 1);
+        due("23: 60 or 90", x.fits(0, 0, 0), 2);
+        x.write(0, 1, 0);
+        due("23: only 90, on day 6 too", x.fits(0, 0, 0), 1);
+        x.write(0, 1, 1);
+        due("23: only 60", x.fits(0, 0, 0), 1);
+        x.write(0, 7, 2);
+        due("23: both at once can't be", x.fits(0, 0, 0), 0);
+        Check.sheet(x, 0, 8, 0, 0, -1, -1, -1, -1, -1, 0);
+        due("23: neither", x.fits(0, 0, 0), 98);
     }
 
     private static void promise24() {
@@ -879,7 +968,21 @@ public final class PromisesTest {
         due("30: a ninth", Check.read(x, "ward 0 taste 7; urn"), -17);
         due("30: nothing of it stands", x.wardOf(0, 1), 2);
         due("30: no finding", x.status(-1), 0);
+        promise30Image();
         promise30Faults();
+    }
+
+    private static void promise30Image() {
+        PourElection x = Check.with(0);
+        x.image();
+        due("30: read behind an image", Check.read(x, "urn;ward 0 taste 7"), 2);
+        due("30: it stands", x.count(1), 2);
+        x.undo();
+        due("30: what was kept has no urn", x.count(1), 1);
+        due("30: nor the taste", x.wardOf(0, 1), 60);
+        due("30: a fault", Check.read(x, "urn;ward 0 taste 7;"), -20);
+        x.undo();
+        due("30: nor by a fault", x.count(1) + x.wardOf(0, 1), 61);
     }
 
     private static void fault(String text, int place) {
@@ -936,6 +1039,9 @@ public final class PromisesTest {
         fault("urn broken broken", 11);
         fault("urn broken votes 1", 11);
         fault("urn brokenx", 4);
+        fault("urn heat 5_", 10);
+        fault("urn voters 1", 4);
+        fault("urn taste 1", 4);
         fault("urn;urn;urn", 8);
         fault("urn;urn;ward 0 taste 1;gilt", 23);
         fault("ward", 4);
@@ -947,6 +1053,10 @@ public final class PromisesTest {
         fault("ward 5 taste 100", 13);
         fault("ward 5 taste 1 voters 1", 15);
         fault("ward 5 voters 1 voters 1", 16);
+        fault("ward 5 broken", 7);
+        fault("ward 5 heat 1", 7);
+        fault("ward 5 taste 1 broken", 15);
+        fault("trial 5 5 broken", 10);
         fault("wards 5", 0);
         fault("trial", 5);
         fault("trial 6 0", 6);
